@@ -119,7 +119,7 @@ public final class SunShadows {
         Hour sunny = sunnyHour(hour);
         int count = 0;
         for (int y = 0; y < height; y++) {
-            long shade = alone == null ? shadeOfRow(y, sunny) : alone.shadeOfRow(y, sunny, width);
+            long shade = alone == null ? shadeOfRow(y, sunny) : alone.shadeThrownOnRow(y, sunny, width);
             count += Long.bitCount(shade);
         }
         return count;
@@ -254,7 +254,7 @@ public final class SunShadows {
         long shade = 0L;
         for (Box box : boxes) {
             if (box != null) {
-                shade |= box.shadeOfRow(y, hour, width);
+                shade |= box.shadeThrownOnRow(y, hour, width);
             }
         }
         return shade;
@@ -266,7 +266,7 @@ public final class SunShadows {
         for (int y = window.y0; y < window.y1; y++) {
             long shade = shadeOfRow(y, hour);
             if (ledge != null) {
-                shade |= ledge.shadeOfRow(y, hour, width);
+                shade |= ledge.shadeThrownOnRow(y, hour, width);
             }
             count += Long.bitCount(shade & columns);
         }
@@ -312,7 +312,7 @@ public final class SunShadows {
         long byMore = 0L;
         for (int i = 0; i < boxes.length && i < shadeByBox.length; i++) {
             Box box = boxes[i];
-            long shade = box == null ? 0L : box.shadeOfRow(y, hour, width);
+            long shade = box == null ? 0L : box.shadeThrownOnRow(y, hour, width);
             shadeByBox[i] = shade;
             byMore |= byOne & shade;
             byOne |= shade;
@@ -325,14 +325,14 @@ public final class SunShadows {
     }
 
     private static boolean hasCell(long cells, int x) {
-        return (cells >>> x & 1L) != 0L;
+        return ((cells >>> x) & 1L) != 0L;
     }
 
     private static long cellsBetween(int first, int last) {
         if (first > last) {
             return 0L;
         }
-        return (1L << last - first + 1) - 1L << first;
+        return ((1L << (last - first + 1)) - 1L) << first;
     }
 
     private static int cellWithBefore(long cells, int before) {
@@ -425,9 +425,9 @@ public final class SunShadows {
         // The points of the box that throw their shadow on the row's middle line lie at the distances
         // from near to far. Counted in parts of 1 / scale these bounds are whole numbers. As the
         // distance goes from one to the other, the shadow on the line slides without a gap.
-        long shadeOfRow(int y, Hour hour, int width) {
+        long shadeThrownOnRow(int y, Hour hour, int width) {
             int twiceMiddle = 2 * y + 1;
-            if (!present || !hour.hasSun() || hour.sunY == 0 && !spansLine(twiceMiddle)) {
+            if (!present || !hour.hasSun() || (hour.sunY == 0 && !spansLine(twiceMiddle))) {
                 return 0L;
             }
             int scale = hour.sunY == 0 ? 1 : 2 * Math.abs(hour.sunY);

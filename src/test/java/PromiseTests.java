@@ -645,6 +645,14 @@ public final class PromiseTests {
         for (int number : new int[] {NONE, 2, 10, FAR_OUT[0], FAR_OUT[1]}) {
             argument("worst of window " + number, () -> s.worst(number));
         }
+        SunShadows round = straight(5, 5);
+        round.window(1, 1, 3, 3);
+        round.light(0, 1);
+        int[][] sides = {{0, 0, 5, 1}, {0, 3, 5, 4}, {0, 0, 1, 5}, {3, 0, 4, 5}};
+        for (int[] b : sides) {
+            round.box(b[0], b[1], 0, b[2], b[3], 0);
+        }
+        due("boxes round the window take nothing", NONE, () -> round.worst(0));
         SunShadows ten = straight(10, 1);
         ten.window(0, 0, 10, 1);
         ten.light(0, 1);
